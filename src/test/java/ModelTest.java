@@ -1,9 +1,10 @@
 import java.util.Random;
 
-/** Runs of 512 calls, drawn from a fixed seed, on the class and on the model beside it. */
+/** Runs of almost 512 calls, drawn from a fixed seed, on the class and on the model beside it. */
 public final class ModelTest {
     private static final int RUNS = 150;
-    private static final int CALLS = 512;
+    /** An act and two looks after it, at most 90 calls with a full text, are still within 512. */
+    private static final int CALLS = 420;
     private static final String CHARACTERS = "0011223456789**;;;;;;  x";
     private static final String[] SCHEDULES = {
         "0;1;", "0*3; 1*2;", "1*30;", "2*4;1;0*7;", "0;0;1*4;", "0*31;", "1 * 12 ; 0", "2;",
