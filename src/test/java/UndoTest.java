@@ -9,6 +9,7 @@ public final class UndoTest {
         allOfTheState(due);
         wrongSlots(due);
         slots(due);
+        exitsInBothDirections(due);
         restoreDiscardsWhatWasSaved(due);
         countsOfRunning(due);
         theTextIsNoPartOfTheState(due);
@@ -189,6 +190,33 @@ public final class UndoTest {
         x.configure(2, 2, 0);
         due.is("restore(0): the later one", x.restore(0), 1);
         due.is("stepsOf(0)", x.stepsOf(0), 3);
+    }
+
+    private static void exitsInBothDirections(Due due) {
+        RenamingGrid x = Due.grid(2, 3, 0);
+        Due.type(x, "0;1;0;0;1*2;2*9;0*9;1*9;");
+        due.is("runText()", x.runText(), 18);
+        x.save(0);
+        x.configure(2, 3, 0);
+        due.is("left(0, 0)", x.left(0, 0), 0);
+        due.is("left(0, 1)", x.left(0, 1), 0);
+        due.is("undo()", x.undo(), 2);
+        exitsAreThose(due, "undo()", x);
+        due.is("undo() of runText()", x.undo(), 1);
+        due.is("left(0, 0)", x.left(0, 0), 0);
+        due.is("left(0, 1)", x.left(0, 1), 0);
+        due.is("entered(1)", x.entered(1), 0);
+        due.is("restore(0)", x.restore(0), 0);
+        exitsAreThose(due, "restore(0)", x);
+    }
+
+    private static void exitsAreThose(Due due, String after, RenamingGrid x) {
+        due.is("left(0, 0) after " + after, x.left(0, 0), 2);
+        due.is("left(0, 1) after " + after, x.left(0, 1), 1);
+        due.is("left(1, 0) after " + after, x.left(1, 0), 1);
+        due.is("left(2, 1) after " + after, x.left(2, 1), 0);
+        due.is("entered(1) after " + after, x.entered(1), 2);
+        due.is("entered(2) after " + after, x.entered(2), 1);
     }
 
     private static void restoreDiscardsWhatWasSaved(Due due) {
