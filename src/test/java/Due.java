@@ -1,11 +1,27 @@
 /** Compares answers with those that are due, and tells the others. */
 final class Due {
+    /** Far more than any test needs: a call that does not end is wrong, too. */
+    private static final int MOST_SECONDS = 200;
+
     private final String test;
     private int checked;
     private int wrong;
 
     Due(String test) {
         this.test = test;
+        Thread guard = new Thread(this::endWhenTooLate);
+        guard.setDaemon(true);
+        guard.start();
+    }
+
+    private void endWhenTooLate() {
+        try {
+            Thread.sleep(MOST_SECONDS * 1000L);
+            System.out.println(test + ": a call did not end");
+            Runtime.getRuntime().halt(1);
+        } catch (InterruptedException e) {
+            Thread.currentThread().interrupt();
+        }
     }
 
     void is(String call, long got, long want) {
